@@ -1,5 +1,7 @@
 /** Counts answers that are not as due, and ends the test with them. */
 final class Due {
+    private static final int MOST_PRINTED = 50;
+
     private final String test;
     private int asked;
     private int wrong;
@@ -12,7 +14,13 @@ final class Due {
         asked++;
         if (got != want) {
             wrong++;
-            System.out.println(test + ": " + call + " answered " + got + ", due is " + want);
+            print(test + ": " + call + " answered " + got + ", due is " + want);
+        }
+    }
+
+    private void print(String line) {
+        if (wrong <= MOST_PRINTED) {
+            System.out.println(line);
         }
     }
 
@@ -26,6 +34,13 @@ final class Due {
             x.feed(letters.charAt(i));
         }
         return x.night();
+    }
+
+    /** A new object with a night that must be without fault. */
+    PaidInLight told(String letters) {
+        PaidInLight x = new PaidInLight();
+        is("night() of " + letters, night(x, letters), letters.chars().filter(c -> c == ';').count());
+        return x;
     }
 
     void end() {
