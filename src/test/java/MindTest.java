@@ -9,6 +9,8 @@ public final class MindTest {
 
     public static void main(String[] args) {
         inMind();
+        fromNow();
+        sixCandles();
         behindZeroTo300();
         owesZeroTo300();
         readsZeroTo300();
@@ -21,6 +23,7 @@ public final class MindTest {
         darkInNoneOfThem();
         bestZeroTo20();
         bestAllLit();
+        bestOfAllWays();
         bestFirstOfSeveral();
         bestWithoutCandles();
         bestWithSix();
@@ -80,6 +83,71 @@ public final class MindTest {
         TWINS.changesNothing("candle", Twins::furnished, y -> y.candle(4, 8), x.candle(4, 8));
         TWINS.changesNothing("debt", Twins::furnished, y -> y.debt(2, 3), 44);
         TWINS.changesNothing("count of another what", Twins::furnished, y -> y.count(10), -9);
+    }
+
+    /** ".., from now": each time from what there is then, whatever was thought ahead of it. */
+    private static void fromNow() {
+        PaidInLight x = DUE.told("c0009;c00190;p01;d019;");
+        for (int i = 0; i < 2; i++) {
+            is("from now: behind", x.behind(0, 1), 6);
+            is("from now: owes", x.owes(0, 1, 1), 6);
+            is("from now: reads", x.reads(1, 300), 3);
+            is("from now: seeds", x.seeds(1, 0), 99);
+            is("from now: clear", x.clearBy(), 3);
+            is("from now: seeds again", x.seeds(2, 0), 96);
+            is("from now: ends", x.ends(0), 3);
+            is("from now: dark", x.dark(300), 0);
+        }
+        x.owe(2, 3, 1);
+        is("from now: clear of more debts", x.clearBy(), -9);
+        is("from now: dark of more debts", x.dark(300), 8);
+        x.owe(2, 3, 0);
+        x.draught(1, 6);
+        is("from now: ends in a draught", x.ends(0), 2);
+        is("from now: clear in a draught", x.clearBy(), -9);
+        x.light(0, false);
+        is("from now: reads when it is snuffed", x.reads(1, 300), 0);
+        x.light(0, true);
+        x.put(0, 2);
+        is("from now: reads elsewhere", x.reads(2, 300), 3);
+        is("from now: owes, burning elsewhere", x.owes(0, 1, 300), 9);
+        x.go(1);
+        is("from now: ends behind a minute", x.ends(0), 2);
+        is("from now: behind a minute", x.behind(0, 1), 3);
+    }
+
+    /** CANDLES 0 .. 5: with all six every call takes part in the last one. */
+    private static void sixCandles() {
+        PaidInLight x = DUE.told("c0009;c0009;c0009;c0009;c0009;c00010;d0150;d0250;d0350;");
+        is("six: dark, none lit", x.dark(300), 14);
+        is("six: reads, none lit", x.reads(0, 300) + x.reads(3, 300), 0);
+        is("six: clear, none lit", x.clearBy(), -9);
+        is("six: ends, not lit", x.ends(5), -9);
+        is("six: put", x.put(5, 3), 0);
+        is("six: light", x.light(5, true), 1);
+        is("six: lit", x.count(4), 1);
+        is("six: grains", x.count(2), 55);
+        is("six: behind", x.behind(5, 1), 7);
+        is("six: owes", x.owes(0, 3, 300), 40);
+        is("six: reads", x.reads(3, 300), 4);
+        is("six: reads elsewhere", x.reads(2, 300), 0);
+        is("six: ends", x.ends(5), 4);
+        is("six: dark", x.dark(300), 6);
+        is("six: clear", x.clearBy(), -9);
+        is("six: best", x.best(20, -1), 95);
+        is("six: best room of it, behind five that fill room 1", x.best(20, 5), 2);
+        is("six: dripped", x.dripped(5, 3, 0, 0), 100);
+        is("six: seeds", x.seeds(1, 0), 55 - 3 - 3);
+        is("six: image", x.image(), 0);
+        is("six: go", x.go(1), 3);
+        is("six: candle", x.candle(5, 2), 7);
+        is("six: restore", x.restore(), 0);
+        is("six: candle restored", x.candle(5, 2), 10);
+        for (int candle = 0; candle <= 5; candle++) {
+            x.row(x.candle(candle, 2));
+        }
+        is("six: judge", x.judge(), -9);
+        is("six: no seventh", Due.night(x, "c0001;"), -2000);
     }
 
     /** "BEHIND n MINUTES (0 .. 300): GRAINS of a CANDLE": one that burns 1 a minute. */
@@ -242,6 +310,19 @@ public final class MindTest {
         is("best: chosen by it", draught.best(2, 0), 2);
     }
 
+    /** "of all ways": the best one begins with less than others do. */
+    private static void bestOfAllWays() {
+        // In room 0 a candle counts 4 and beeswax 10 each; in room 1 the candle counts 3.
+        PaidInLight x = DUE.told("c00350;c10350;c10350;d3020;d313;r09;");
+        is("all ways: all is paid", x.best(1, -1), 0);
+        is("all ways: candle 0", x.best(1, 0), 1);
+        is("all ways: candle 1", x.best(1, 1), 0);
+        is("all ways: candle 2", x.best(1, 2), 0);
+        is("all ways: behind 0 the first of them all", x.best(0, 0), 0);
+        is("all ways: and their sum", x.best(0, -1), 23);
+        is("all ways: then as before", x.best(1, 0), 1);
+    }
+
     /** "of several the first by CANDLES one behind the other" */
     private static void bestFirstOfSeveral() {
         PaidInLight x = DUE.told("c00050;c00050;d013;d023;");
@@ -361,6 +442,12 @@ public final class MindTest {
         PaidInLight full = DUE.told("d01999;d10999;d23999;d32999;");
         is("rings: 999", full.strike(), 2);
         is("rings: 999 gone", full.count(3), 0);
+        PaidInLight least = DUE.told("d011;d101;");
+        is("rings: two of 1", least.strike(), 1);
+        is("rings: two of 1 gone", least.count(3), 0);
+        PaidInLight three = DUE.told("d131;d321;d211;");
+        is("rings: three of 1", three.strike(), 1);
+        is("rings: three of 1 gone", three.count(3), 0);
     }
 
     /** "the first (two ahead of three" */
@@ -737,7 +824,8 @@ public final class MindTest {
     private static void imageOfFewerAndOfMoreCandles() {
         PaidInLight x = DUE.told("c0005;");
         x.image();
-        is("fewer: five more", Due.night(x, "c0009;".repeat(5)), 5);
+        is("fewer: five more", Due.night(x, "c00099;".repeat(5) + "p11;p21;p31;p41;p51;d0199;"), 11);
+        is("fewer: best of six", x.best(9, 0), 0);
         x.restore();
         is("fewer: one", x.count(0), 1);
         is("fewer: no second", x.candle(1, 0), -1);
@@ -745,6 +833,12 @@ public final class MindTest {
         is("fewer: its kind", x.candle(1, 0), 3);
         is("fewer: its grains", x.candle(1, 2), 8);
         is("fewer: not lit", x.candle(1, 5), 0);
+        is("fewer: best of two", x.best(9, 0), 0);
+        is("fewer: the sum of no debts", x.best(9, -1), 0);
+        x.owe(0, 1, 9);
+        is("fewer: best of two with a debt", x.best(9, -1), 4);
+        is("fewer: best room of the first", x.best(9, 0), 1);
+        is("fewer: best room of the second", x.best(9, 1), 0);
         PaidInLight empty = new PaidInLight();
         is("fewer: image of none", empty.image(), 0);
         is("fewer: six come", Due.night(empty, "c0009;".repeat(6)), 6);
