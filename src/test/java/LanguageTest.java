@@ -29,6 +29,7 @@ public final class LanguageTest {
         face();
         members(PaidInLight.class);
         source();
+        layout();
         DUE.end();
     }
 
@@ -96,5 +97,32 @@ public final class LanguageTest {
             boolean listed = List.of("Math.min", "Math.max", "System.arraycopy").contains(library.group());
             DUE.is("4 uses " + library.group(), listed ? 1 : 0, 1);
         }
+    }
+
+    /** Methods stay short, signs are 1 to 127, and objects are made in constructors alone, so that the room holds. */
+    private static void layout() throws Exception {
+        List<String> lines = Files.readAllLines(Path.of("src/main/java/PaidInLight.java"));
+        Pattern head = Pattern.compile("( {4}| {8})(?!.*\\bclass\\b)[A-Za-z].*\\) \\{");
+        String method = "";
+        String indent = "";
+        int started = 0;
+        for (int i = 0; i < lines.size(); i++) {
+            String line = lines.get(i);
+            DUE.is("4 signs of line " + (i + 1), line.chars().allMatch(c -> c >= 1 && c <= 127) ? 1 : 0, 1);
+            Matcher m = head.matcher(line);
+            if (method.isEmpty() && m.matches()) {
+                method = line.trim();
+                indent = m.group(1);
+                started = i;
+            }
+            boolean constructs = method.matches("(public PaidInLight|House)\\(.*");
+            boolean makes = !method.isEmpty() && !constructs && line.matches(".*\\bnew\\b.*");
+            DUE.is("12 makes something: line " + (i + 1), makes ? 1 : 0, 0);
+            if (!method.isEmpty() && line.equals(indent + "}")) {
+                DUE.is("11 length of " + method, i - started < 60 ? 1 : 0, 1);
+                method = "";
+            }
+        }
+        DUE.is("11 the last method has an end: " + method, method.isEmpty() ? 1 : 0, 1);
     }
 }
